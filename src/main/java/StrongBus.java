@@ -153,7 +153,7 @@ public final class StrongBus {
         totals[outcome]++;
       }
     }
-    levels[totals[BIT_TIMES] % KEPT_LEVELS] = wire;
+    levels[Math.floorMod(totals[BIT_TIMES], KEPT_LEVELS)] = wire;
     totals[BIT_TIMES]++;
   }
 

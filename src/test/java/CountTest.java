@@ -7,14 +7,17 @@ public final class CountTest {
     countsFrames();
     tOfASender();
     rOfAHearer();
+    aLoserIsHearing();
+    tGoesBackTo0();
     rGoesBackTo127();
+    passiveByR();
     aFlagThatIsNotSeen();
     zerosBehindAFlag();
     zerosBehindASendersFlag();
     shapeBehindAFlag();
     overloadsAreNotCounted();
     passiveAnswers();
-    offByAFlag();
+    offHasNoFlag();
     offByZerosBehindAFlag();
     offForgetsBoth();
     CHECK.end();
@@ -96,7 +99,8 @@ public final class CountTest {
     }
   }
 
-  private static void rGoesBackTo127() {
+  /** A bus of two at rest where R of node 1 is 169. */
+  private static StrongBus withPassiveHearer() {
     StrongBus bus = new StrongBus(2);
     bus.disturb(1, 1);
     // A flag from 8 on of which it sees nothing, and 0 behind it up to 125: 14 times eight.
@@ -104,6 +108,64 @@ public final class CountTest {
     disturbMany(bus, 1, 20, 125);
     bus.pass(200);
     CHECK.due("1, six times 8, 8, and 14 times 8: R", bus.count(1, 1), 1 + 48 + 8 + 112);
+    return bus;
+  }
+
+  private static void passiveByR() {
+    StrongBus bus = withPassiveHearer();
+    bus.request(1, 0, 0, 0);
+    bus.disturb(1, 42);
+    bus.pass(42);
+    CHECK.due("ANSWER of a passive one: T", bus.count(1, 0), 0);
+    CHECK.due("total(6)", bus.total(6), 0);
+    // Its flag, eight 1, a pause and a suspension.
+    bus.pass(6 + 8 + 3);
+    CHECK.due("state(1)", bus.state(1), Line.SUSPENDED);
+
+    StrongBus edge = withPassiveHearer();
+    edge.request(0, 0, 0, 0);
+    edge.request(0, 0, 0, 0);
+    edge.pass(106);
+    CHECK.due("R", edge.count(1, 1), 126);
+    edge.disturb(1, 1);
+    edge.pass(7);
+    CHECK.due("R", edge.count(1, 1), 127);
+    edge.pass(1);
+    CHECK.due("127 is not passive: its flag", edge.level(0), 0);
+
+    StrongBus above = withPassiveHearer();
+    above.request(0, 0, 0, 0);
+    above.pass(53);
+    above.disturb(1, 1);
+    above.pass(7);
+    CHECK.due("R", above.count(1, 1), 128);
+    above.pass(1);
+    CHECK.due("128 is passive: its flag", above.level(0), 1);
+    CHECK.due("state(1)", above.state(1), Line.FLAG);
+  }
+
+  private static void aLoserIsHearing() {
+    StrongBus bus = new StrongBus(3);
+    bus.request(0, 1365, 0, 0);
+    bus.request(1, 1364, 0, 0);
+    bus.disturb(0, 13);
+    bus.pass(13);
+    CHECK.due("SHAPE: state(0)", bus.state(0), Line.FLAG);
+    CHECK.due("T", bus.count(0, 0), 0);
+    CHECK.due("R", bus.count(0, 1), 1);
+  }
+
+  private static void tGoesBackTo0() {
+    StrongBus bus = Line.withErrors(1);
+    for (int t = 7; t >= -1; t--) {
+      bus.pass(53);
+      CHECK.due("T", bus.count(0, 0), t < 0 ? 0 : t);
+      bus.request(0, 0, 0, 0);
+    }
+  }
+
+  private static void rGoesBackTo127() {
+    StrongBus bus = withPassiveHearer();
     bus.request(0, 0, 0, 0);
     bus.pass(50);
     CHECK.due("a frame heard: R", bus.count(1, 1), 127);
@@ -226,12 +288,12 @@ public final class CountTest {
     CHECK.due("it is not counted: total(6)", passive.total(6), 0);
   }
 
-  private static void offByAFlag() {
+  private static void offHasNoFlag() {
     // T is 112, 168 by a flag that it does not see, and 8 more for each error from then on.
     StrongBus bus = Line.withErrors(14);
     disturbMany(bus, 0, 1, 7);
-    bus.pass(7);
-    Line.untilRest(bus, 0);
+    // The other one's flag ends with 12; eight 1, a pause and a suspension follow.
+    bus.pass(12 + 8 + 3 + 8);
     CHECK.due("T", bus.count(0, 0), 168);
     Line.errAtStart(bus, 0, 10);
     CHECK.due("T", bus.count(0, 0), 248);

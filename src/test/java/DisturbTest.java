@@ -37,7 +37,6 @@ public final class DisturbTest {
     bus.disturb(0, 2);
     bus.pass(2);
     CHECK.due("asked for twice it is disturbed: state(0)", bus.state(0), Line.HEARING);
-    Line.untilRest(bus, 0);
     bus.pass(200);
     bus.pass(200);
     CHECK.due("and not again: state(0)", bus.state(0), Line.IDLE);

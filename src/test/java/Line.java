@@ -11,6 +11,11 @@ final class Line {
   static final int SUSPENDED = 6;
   static final int OFF = 7;
 
+  private static final int KEPT = 64;
+  // Its flag, what is left of the other one's, eight 1 and a pause; a passive one is suspended, too.
+  private static final int ACTIVE_ROUND = 6 + 5 + 8 + 3;
+  private static final int PASSIVE_ROUND = 6 + 6 + 8 + 3 + 8;
+
   private Line() {
   }
 
@@ -46,32 +51,30 @@ final class Line {
     return text.toString();
   }
 
-  /** Passes n bit times one by one: the levels of the wire in them. */
+  /** Passes n bit times: the levels of the wire in them. */
   static String passing(StrongBus bus, int n) {
     StringBuilder text = new StringBuilder();
-    for (int i = 0; i < n; i++) {
-      bus.pass(1);
-      text.append(bus.level(0));
+    for (int passed = 0; passed < n; passed += KEPT) {
+      int now = Math.min(KEPT, n - passed);
+      bus.pass(now);
+      for (int i = now - 1; i >= 0; i--) {
+        text.append(bus.level(i));
+      }
     }
     return text.toString();
   }
 
-  /** Passes bit times until the node is idle or off: how many. */
-  static int untilRest(StrongBus bus, int node) {
-    int passed = 0;
-    while (bus.state(node) != IDLE && bus.state(node) != OFF && passed < 400) {
-      bus.pass(1);
-      passed++;
-    }
-    return passed;
-  }
-
-  /** A node for which a frame waits, and whose bus is at rest, errs so often in its start: T is 8 more each time. */
+  /**
+   * A node for which a frame waits, on a bus of two at rest, errs so often in its start: T is 8 more each time, and R
+   * of the other one 1. Few calls each time, as an object is promised for 512 only.
+   */
   static void errAtStart(StrongBus bus, int node, int times) {
     for (int i = 0; i < times; i++) {
       bus.disturb(node, 1);
       bus.pass(1);
-      untilRest(bus, node);
+      if (bus.state(node) != OFF) {
+        bus.pass(bus.count(node, 0) > 127 ? PASSIVE_ROUND : ACTIVE_ROUND);
+      }
     }
   }
 

@@ -18,6 +18,7 @@ public final class StateTest {
     aPassiveHearerIsNotSuspended();
     noSuspensionBehindAnOverload();
     off();
+    offCountsFromTheNextBitTimeOn();
     offCountsAnew();
     CHECK.end();
   }
@@ -136,6 +137,13 @@ public final class StateTest {
     CHECK.due("hearing, bit 15 is 1: none before bit 18", errorOf(large, 1), 0);
     large.pass(1);
     CHECK.due("hearing, then it is above 2", errorOf(large, 1), 4);
+
+    // It takes the pad for bit 17, and bit 17 for bit 18: 1010.
+    StrongBus ten = new StrongBus(3);
+    ten.request(0, 1365, 0, 0);
+    ten.disturb(1, 16);
+    ten.pass(19);
+    CHECK.due("hearing, bit 15 counts for 8", errorOf(ten, 1), 4);
   }
 
   private static int sendingErrorAt(int bitTime) {
@@ -278,12 +286,16 @@ public final class StateTest {
 
   private static void aPassiveHearerIsNotSuspended() {
     StrongBus bus = Line.withErrors(18);
-    bus.pass(50);
-    Line.untilRest(bus, 0);
+    bus.pass(50 + 3 + 8);
     bus.request(1, 0, 0, 0);
     bus.pass(53);
     CHECK.due("it is passive: T", bus.count(0, 0), 143);
     states(bus, "it was hearing last", Line.IDLE, Line.IDLE);
+    bus.request(0, 9, 0, 0);
+    bus.request(1, 0, 0, 0);
+    bus.pass(53);
+    CHECK.due("its frame waits: count(0, 2)", bus.count(0, 2), 1);
+    states(bus, "it was sending, but lost", Line.IDLE, Line.IDLE);
   }
 
   private static void noSuspensionBehindAnOverload() {
@@ -318,8 +330,7 @@ public final class StateTest {
     CHECK.due("it does", bus.pass(50), 1);
 
     StrongBus edge = Line.withErrors(31);
-    edge.pass(50);
-    Line.untilRest(edge, 0);
+    edge.pass(50 + 3 + 8);
     edge.request(0, 0, 0, 0);
     CHECK.due("T", edge.count(0, 0), 247);
     Line.errAtStart(edge, 0, 1);
@@ -328,6 +339,26 @@ public final class StateTest {
     Line.errAtStart(edge, 0, 1);
     CHECK.due("T", edge.count(0, 0), 263);
     CHECK.due("263 is off", edge.state(0), Line.OFF);
+  }
+
+  private static void offCountsFromTheNextBitTimeOn() {
+    StrongBus bus = Line.withErrors(31);
+    // In the tail none but the sender sees a 0, and all that follows is 1.
+    bus.disturb(0, 44);
+    bus.pass(44);
+    CHECK.due("state(0)", bus.state(0), Line.OFF);
+    bus.pass(87);
+    CHECK.due("87 of 88", bus.state(0), Line.OFF);
+    bus.pass(1);
+    CHECK.due("88 of 88", bus.state(0), Line.IDLE);
+
+    bus.request(0, 0, 0, 0);
+    Line.errAtStart(bus, 0, 32);
+    CHECK.due("off again: state(0)", bus.state(0), Line.OFF);
+    bus.pass(12 + 87);
+    CHECK.due("87 of 88", bus.state(0), Line.OFF);
+    bus.pass(1);
+    CHECK.due("88 of 88", bus.state(0), Line.IDLE);
   }
 
   private static void offCountsAnew() {
