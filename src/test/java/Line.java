@@ -1,5 +1,3 @@
-import java.util.Arrays;
-
 /** Frames as the document's terms lay them out, and ways to bring a bus where a test wants it. */
 final class Line {
   static final int IDLE = 0;
@@ -10,6 +8,19 @@ final class Line {
   static final int PAUSE = 5;
   static final int SUSPENDED = 6;
   static final int OFF = 7;
+
+  // The bit times of a plain frame, of ID 0 without bytes: a core of 34 bits and 6 pads, and 10 behind it.
+  static final int END = 41;
+  static final int ANSWER = 42;
+  static final int GAP = 43;
+  static final int TAIL = 44;
+  static final int TAIL_LAST = 50;
+  static final int WITH_PAUSE = 53;
+
+  // A long frame whose bits change often, so that one of them that is seen wrong seldom moves a pad.
+  static final int LONG_ID = 1365;
+  static final int LONG_DATA = 43690;
+  static final int LONG_END = core(LONG_ID, 2, LONG_DATA).length + 1;
 
   private static final int KEPT = 64;
   // Its flag, what is left of the other one's, eight 1 and a pause; a passive one is suspended, too.
@@ -35,12 +46,8 @@ final class Line {
   }
 
   /** The levels of the wire over a whole frame that is answered. */
-  static int[] frame(int id, int bytes, int data) {
-    int[] core = core(id, bytes, data);
-    int[] frame = Arrays.copyOf(core, core.length + 10);
-    Arrays.fill(frame, core.length, frame.length, 1);
-    frame[core.length + 1] = 0;
-    return frame;
+  static String frame(int id, int bytes, int data) {
+    return text(core(id, bytes, data)) + "1" + "0" + "1" + "1111111";
   }
 
   static String text(int[] levels) {
@@ -49,6 +56,27 @@ final class Line {
       text.append(level);
     }
     return text.toString();
+  }
+
+  /** What the wire of a new bus of two has from the start of a frame up to the last bit of its tail. */
+  static String sent(int id, int bytes, int data) {
+    StrongBus bus = new StrongBus(2);
+    bus.request(0, id, bytes, data);
+    return passing(bus, core(id, bytes, data).length + 10);
+  }
+
+  /** The core of a frame on the wire, without its pads. */
+  static String coreOf(String wire, int bytes) {
+    String core = "";
+    int equal = 0;
+    char latest = ' ';
+    for (int i = 0; core.length() < 34 + 8 * bytes; i++) {
+      boolean pad = equal == 5;
+      equal = wire.charAt(i) == latest ? equal + 1 : 1;
+      latest = wire.charAt(i);
+      core += pad ? "" : latest;
+    }
+    return core;
   }
 
   /** Passes n bit times: the levels of the wire in them. */
@@ -62,6 +90,12 @@ final class Line {
       }
     }
     return text.toString();
+  }
+
+  static void disturb(StrongBus bus, int node, int from, int to) {
+    for (int n = from; n <= to; n++) {
+      bus.disturb(node, n);
+    }
   }
 
   /**
@@ -78,7 +112,7 @@ final class Line {
     }
   }
 
-  /** A bus of two where a frame of ID 0 without bytes waits at node 0, whose T is 8 times as many as the errors. */
+  /** A bus of two at rest where a plain frame waits at node 0, whose T is 8 times as many as the errors. */
   static StrongBus withErrors(int errors) {
     StrongBus bus = new StrongBus(2);
     bus.request(0, 0, 0, 0);
@@ -86,7 +120,60 @@ final class Line {
     return bus;
   }
 
-  private static boolean isRight(String core) {
+  /** A bus of two at rest where T of node 0 is 1 less than with these errors, and no frame waits. */
+  static StrongBus withErrorsAndAFrame(int errors) {
+    StrongBus bus = withErrors(errors);
+    bus.pass(WITH_PAUSE + 8);
+    bus.take(1);
+    return bus;
+  }
+
+  /** A bus of two at rest where R of node 1 is 169. */
+  static StrongBus withHighR() {
+    StrongBus bus = new StrongBus(2);
+    bus.disturb(1, 1);
+    // PAD in 7; a flag from 8 on of which it sees nothing, and 0 behind it up to 125: 1 + 6 * 8 + 8 + 14 * 8.
+    disturb(bus, 1, 8, 13);
+    disturb(bus, 1, 20, 125);
+    bus.pass(200);
+    return bus;
+  }
+
+  /** A bus of two at rest where R of node 1 is 127: it heard a frame with more. */
+  static StrongBus withR127() {
+    StrongBus bus = withHighR();
+    bus.request(0, 0, 0, 0);
+    bus.pass(WITH_PAUSE);
+    bus.take(1);
+    return bus;
+  }
+
+  /** A bus of two at rest where R of node 1 is 128: one error more than 127. */
+  static StrongBus withR128() {
+    StrongBus bus = withR127();
+    bus.disturb(1, 1);
+    // A false start and six 1, a flag that is not heard, eight 1 and a pause.
+    bus.pass(7 + 6 + 8 + 3);
+    return bus;
+  }
+
+  /** All that a bus of so many nodes answers without a change, but for the older levels. */
+  static String picture(StrongBus bus, int nodes) {
+    StringBuilder text = new StringBuilder();
+    for (int node = 0; node < nodes; node++) {
+      text.append(" node ").append(bus.state(node)).append(':');
+      for (int which = 0; which <= 4; which++) {
+        text.append(' ').append(bus.count(node, which));
+      }
+    }
+    text.append(" totals");
+    for (int which = 0; which <= 7; which++) {
+      text.append(' ').append(bus.total(which));
+    }
+    return text.append(" level ").append(bus.level(0)).toString();
+  }
+
+  static boolean isRight(String core) {
     int register = 0;
     for (int i = 0; i < core.length(); i++) {
       int bit = core.charAt(i) - '0';
@@ -97,6 +184,11 @@ final class Line {
       }
     }
     return register == 0;
+  }
+
+  static String binary(int number, int width) {
+    String digits = Integer.toBinaryString(number);
+    return "0".repeat(width - digits.length()) + digits;
   }
 
   private static int[] padded(String core) {
@@ -114,10 +206,5 @@ final class Line {
       levels[i] = wire.charAt(i) - '0';
     }
     return levels;
-  }
-
-  private static String binary(int number, int width) {
-    String digits = Integer.toBinaryString(number);
-    return "0".repeat(width - digits.length()) + digits;
   }
 }

@@ -1,126 +1,164 @@
-/** Promise 2. */
+@Section("Promise 2: request")
 public final class RequestTest {
-  private static final Check CHECK = new Check("promise 2, request");
+  private static final Check CHECK = new Check(RequestTest.class);
+  private static final int[] FAR = {Integer.MIN_VALUE, Integer.MAX_VALUE};
 
   public static void main(String[] args) {
-    countsWhatWaits();
-    refusesWhatIsNoFrame();
-    takesTheEdges();
-    refusesAtAnOffNode();
-    leastIdComesFirst();
-    ofEqualIdsTheFirst();
-    aFrameOnItsWayIsNotPutOff();
-    CHECK.end();
+    CHECK.run();
   }
 
-  private static void countsWhatWaits() {
-    StrongBus bus = new StrongBus(2);
+  @Says("A frame waits to be sent by a node: how many wait then.")
+  static void answersHowManyWait() {
+    StrongBus bus = new StrongBus(3);
     for (int i = 1; i <= 4; i++) {
       CHECK.due("request number " + i, bus.request(1, 10 * i, 0, 0), i);
     }
-    CHECK.badState("a fifth request", () -> bus.request(1, 50, 0, 0));
-    CHECK.badArgument("a fifth request, and no such ID", () -> bus.request(1, 2048, 0, 0));
+    CHECK.due("another node's", bus.request(2, 5, 0, 0), 1);
+    CHECK.due("count(0, 2)", bus.count(0, 2), 0);
     CHECK.due("count(1, 2)", bus.count(1, 2), 4);
-    CHECK.due("another node's", bus.request(0, 5, 0, 0), 1);
-    bus.pass(1);
-    CHECK.due("one that is being sent waits still: count(0, 2)", bus.count(0, 2), 1);
-    bus.pass(60);
-    CHECK.due("one that was sent waits no more: count(0, 2)", bus.count(0, 2), 0);
-    bus.pass(60);
-    CHECK.due("count(1, 2)", bus.count(1, 2), 3);
-    CHECK.due("there is room again", bus.request(1, 50, 0, 0), 4);
+    CHECK.due("count(2, 2)", bus.count(2, 2), 1);
   }
 
-  private static void refusesWhatIsNoFrame() {
-    StrongBus bus = new StrongBus(3);
-    CHECK.badArgument("request(-1, 0, 0, 0)", () -> bus.request(-1, 0, 0, 0));
-    CHECK.badArgument("request(3, 0, 0, 0)", () -> bus.request(3, 0, 0, 0));
-    CHECK.badArgument("request(0, -1, 0, 0)", () -> bus.request(0, -1, 0, 0));
-    CHECK.badArgument("request(0, 2048, 0, 0)", () -> bus.request(0, 2048, 0, 0));
-    CHECK.badArgument("request(0, 0, -1, 0)", () -> bus.request(0, 0, -1, 0));
-    CHECK.badArgument("request(0, 0, 3, 0)", () -> bus.request(0, 0, 3, 0));
-    CHECK.badArgument("request(0, 0, MAX, 0)", () -> bus.request(0, 0, Integer.MAX_VALUE, 0));
-    CHECK.badArgument("request(0, 0, 0, 1)", () -> bus.request(0, 0, 0, 1));
-    CHECK.badArgument("request(0, 0, 1, 256)", () -> bus.request(0, 0, 1, 256));
-    CHECK.badArgument("request(0, 0, 2, 65536)", () -> bus.request(0, 0, 2, 65536));
+  @Says("A frame waits to be sent by a node: how many wait then.")
+  static void aFrameOnItsWayWaitsStill() {
+    StrongBus bus = new StrongBus(2);
+    bus.request(0, 0, 0, 0);
+    bus.pass(Line.TAIL_LAST - 1);
+    CHECK.due("before the last bit of the tail", bus.request(0, 1, 0, 0), 2);
+    bus.pass(1);
+    CHECK.due("behind it", bus.request(0, 2, 0, 0), 2);
+  }
+
+  @Says("data: the first byte is its lowest eight bits, the second one the next.")
+  static void theFirstByteIsTheLowest() {
+    CHECK.due("two bytes", Line.coreOf(Line.sent(1365, 2, 0x3A5C), 2).substring(19, 35), "0101110000111010");
+    CHECK.due("the first one's lowest bit", Line.coreOf(Line.sent(1365, 2, 1), 2).substring(19, 35), "0000000100000000");
+    CHECK.due("the second one's", Line.coreOf(Line.sent(1365, 2, 256), 2).substring(19, 35), "0000000000000001");
+    CHECK.due("one byte", Line.coreOf(Line.sent(1365, 1, 0x5C), 1).substring(19, 27), "01011100");
+  }
+
+  @Says("IllegalArgumentException: there is no such node")
+  static void noSuchNode() {
+    for (int nodes = 2; nodes <= 4; nodes++) {
+      StrongBus bus = new StrongBus(nodes);
+      for (int node : new int[] {-1, nodes, nodes + 1, FAR[0], FAR[1]}) {
+        CHECK.badArgument("request at node " + node + " of " + nodes, () -> bus.request(node, 0, 0, 0));
+      }
+      CHECK.due("request at the last node", bus.request(nodes - 1, 0, 0, 0), 1);
+    }
+  }
+
+  @Says(", ID,")
+  static void noSuchId() {
+    StrongBus bus = new StrongBus(2);
+    for (int id : new int[] {-1, 2048, FAR[0], FAR[1]}) {
+      CHECK.badArgument("request of ID " + id, () -> bus.request(0, id, 0, 0));
+    }
+    CHECK.due("request of ID 0", bus.request(0, 0, 0, 0), 1);
+    CHECK.due("request of ID 2047", bus.request(0, 2047, 0, 0), 2);
+  }
+
+  @Says("or number of bytes,")
+  static void noSuchNumberOfBytes() {
+    StrongBus bus = new StrongBus(2);
+    for (int bytes : new int[] {-1, 3, 4, FAR[0], FAR[1]}) {
+      CHECK.badArgument("request with " + bytes + " bytes", () -> bus.request(0, 0, bytes, 0));
+    }
+    for (int bytes = 0; bytes <= 2; bytes++) {
+      CHECK.due("request with " + bytes + " bytes", bus.request(0, 0, bytes, 0), bytes + 1);
+    }
+  }
+
+  @Says("or data is below 0")
+  static void dataBelow0() {
+    StrongBus bus = new StrongBus(2);
     for (int bytes = 0; bytes <= 2; bytes++) {
       int b = bytes;
-      CHECK.badArgument("data -1 of " + b, () -> bus.request(0, 0, b, -1));
-      CHECK.badArgument("data MIN of " + b, () -> bus.request(0, 0, b, Integer.MIN_VALUE));
-      CHECK.badArgument("data MAX of " + b, () -> bus.request(0, 0, b, Integer.MAX_VALUE));
+      CHECK.badArgument("data -1 in bytes " + b, () -> bus.request(0, 0, b, -1));
+      CHECK.badArgument("data MIN in bytes " + b, () -> bus.request(0, 0, b, FAR[0]));
+      CHECK.due("data 0 in bytes " + b, bus.request(0, 0, b, 0), b + 1);
     }
-    CHECK.due("nothing waits: count(0, 2)", bus.count(0, 2), 0);
   }
 
-  private static void takesTheEdges() {
+  @Says("or has more bits than these;")
+  static void dataOfTooManyBits() {
     StrongBus bus = new StrongBus(2);
-    CHECK.due("request(0, 0, 0, 0)", bus.request(0, 0, 0, 0), 1);
-    CHECK.due("request(0, 2047, 2, 65535)", bus.request(0, 2047, 2, 65535), 2);
-    CHECK.due("request(0, 1, 1, 255)", bus.request(0, 1, 1, 255), 3);
-    CHECK.due("request(0, 2, 2, 0)", bus.request(0, 2, 2, 0), 4);
-    bus.pass(200);
-    bus.pass(200);
-    CHECK.due("first", bus.take(1), 0);
-    CHECK.due("second", bus.take(1), 1 + 2048 + 8192 * 255);
-    CHECK.due("third", bus.take(1), 2 + 2048 * 2);
-    CHECK.due("fourth", bus.take(1), 2047 + 2048 * 2 + 8192 * 65535);
+    int[] most = {0, 255, 65535};
+    for (int bytes = 0; bytes <= 2; bytes++) {
+      int b = bytes;
+      CHECK.badArgument("data " + (most[b] + 1) + " in bytes " + b, () -> bus.request(0, 0, b, most[b] + 1));
+      CHECK.badArgument("data MAX in bytes " + b, () -> bus.request(0, 0, b, FAR[1]));
+      CHECK.due("data " + most[b] + " in bytes " + b, bus.request(0, 0, b, most[b]), b + 1);
+    }
   }
 
-  private static void refusesAtAnOffNode() {
+  @Says("IllegalStateException: 4 wait,")
+  static void fourWait() {
+    StrongBus bus = new StrongBus(2);
+    for (int id = 1; id <= 4; id++) {
+      bus.request(0, 0, 0, 0);
+    }
+    CHECK.badState("a fifth request", () -> bus.request(0, 9, 0, 0));
+    CHECK.due("request at the other node", bus.request(1, 2047, 0, 0), 1);
+    bus.pass(Line.TAIL_LAST - 1);
+    CHECK.badState("before the first one was sent", () -> bus.request(0, 9, 0, 0));
+    bus.pass(1);
+    CHECK.due("there is room again", bus.request(0, 9, 0, 0), 4);
+    CHECK.badState("and no more", () -> bus.request(0, 9, 0, 0));
+  }
+
+  @Says("or the node is off.")
+  static void theNodeIsOff() {
     StrongBus bus = Line.withErrors(31);
-    bus.request(0, 9, 0, 0);
-    CHECK.due("count(0, 2) before", bus.count(0, 2), 2);
+    CHECK.due("248 is not off", bus.request(0, 9, 0, 0), 2);
     Line.errAtStart(bus, 0, 1);
     CHECK.due("state(0)", bus.state(0), Line.OFF);
-    CHECK.due("nothing waits any more: count(0, 2)", bus.count(0, 2), 0);
     CHECK.badState("request at an off node", () -> bus.request(0, 0, 0, 0));
-    CHECK.badArgument("request at an off node, and no such ID", () -> bus.request(0, -1, 0, 0));
-    CHECK.due("request at the other node", bus.request(1, 0, 0, 0), 1);
+    CHECK.due("request at the other node", bus.request(1, 2047, 0, 0), 1);
+    bus.pass(99);
+    CHECK.badState("before it is idle again", () -> bus.request(0, 0, 0, 0));
+    // The other one's frame is heard by none, and keeps the wire busy.
+    for (int i = 0; i < 50 && bus.state(0) == Line.OFF; i++) {
+      bus.pass(100);
+    }
+    CHECK.holds("it is on again", bus.state(0) != Line.OFF);
+    CHECK.due("then", bus.request(0, 0, 0, 0), 1);
   }
 
-  private static void leastIdComesFirst() {
-    StrongBus bus = new StrongBus(2);
-    bus.request(0, 300, 0, 0);
-    bus.request(0, 20, 0, 0);
-    bus.request(0, 1000, 0, 0);
-    bus.request(0, 21, 0, 0);
-    bus.pass(200);
-    bus.pass(50);
-    CHECK.due("first", bus.take(1), 20);
-    CHECK.due("second", bus.take(1), 21);
-    CHECK.due("third", bus.take(1), 300);
-    CHECK.due("fourth", bus.take(1), 1000);
+  @Says({"IllegalArgumentException: there is no such node", "IllegalStateException: 4 wait,", "or the node is off."})
+  static void aWrongArgumentComesFirst() {
+    StrongBus full = new StrongBus(2);
+    for (int i = 0; i < 4; i++) {
+      full.request(0, 0, 0, 0);
+    }
+    StrongBus off = Line.withErrors(32);
+    for (StrongBus bus : new StrongBus[] {full, off}) {
+      CHECK.badState("a right request", () -> bus.request(0, 0, 0, 0));
+      CHECK.badArgument("no such ID", () -> bus.request(0, 2048, 0, 0));
+      CHECK.badArgument("no such number of bytes", () -> bus.request(0, 0, 3, 0));
+      CHECK.badArgument("too much data", () -> bus.request(0, 0, 0, 1));
+    }
   }
 
-  private static void ofEqualIdsTheFirst() {
+  @Says({"IllegalArgumentException: there is no such node", "IllegalStateException: 4 wait,"})
+  static void aRefusedRequestChangesNothing() {
     StrongBus bus = new StrongBus(2);
-    bus.request(0, 77, 1, 9);
-    bus.request(0, 76, 1, 1);
-    bus.request(0, 77, 1, 4);
-    bus.request(0, 76, 1, 8);
+    String before = Line.picture(bus, 2);
+    CHECK.badArgument("no such ID", () -> bus.request(0, 2048, 0, 0));
+    CHECK.badArgument("too much data", () -> bus.request(0, 5, 1, 256));
+    CHECK.due("the bus", Line.picture(bus, 2), before);
+    CHECK.due("nothing is sent", bus.pass(200), 0);
+    for (int id = 11; id <= 14; id++) {
+      bus.request(0, id, 0, 0);
+    }
+    String full = Line.picture(bus, 2);
+    CHECK.badState("a fifth request", () -> bus.request(0, 3, 0, 0));
+    CHECK.due("the bus", Line.picture(bus, 2), full);
     bus.pass(200);
-    bus.pass(100);
-    CHECK.due("first", bus.take(1), 76 + 2048 + 8192);
-    CHECK.due("second", bus.take(1), 76 + 2048 + 8192 * 8);
-    CHECK.due("third", bus.take(1), 77 + 2048 + 8192 * 9);
-    CHECK.due("fourth", bus.take(1), 77 + 2048 + 8192 * 4);
-  }
-
-  private static void aFrameOnItsWayIsNotPutOff() {
-    StrongBus bus = new StrongBus(2);
-    bus.request(0, 500, 0, 0);
-    bus.pass(20);
-    bus.request(0, 3, 0, 0);
-    bus.pass(180);
-    CHECK.due("the one that was on its way", bus.take(1), 500);
-    CHECK.due("the one with the less ID", bus.take(1), 3);
-
-    bus.request(0, 500, 0, 0);
-    bus.pass(20);
-    bus.request(0, 3, 0, 0);
-    bus.disturb(0, 1);
     bus.pass(200);
-    CHECK.due("after an error the least ID begins", bus.take(1), 3);
-    CHECK.due("then the other", bus.take(1), 500);
+    for (int id = 11; id <= 14; id++) {
+      CHECK.due("heard", bus.take(1), id);
+    }
+    CHECK.due("count(1, 3)", bus.count(1, 3), 0);
   }
 }

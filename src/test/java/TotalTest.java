@@ -1,49 +1,47 @@
-/** Promise 10. */
+@Section("Promise 10: total")
 public final class TotalTest {
-  private static final Check CHECK = new Check("promise 10, total");
+  private static final Check CHECK = new Check(TotalTest.class);
 
   public static void main(String[] args) {
-    refuses();
-    bitTimesAndFrames();
-    bitErrors();
-    padErrors();
-    shapeErrors();
-    checkAndAnswerErrors();
-    overloads();
-    uncountedAnswers();
-    CHECK.end();
+    CHECK.run();
   }
 
-  private static void totals(StrongBus bus, String when, int... fromBit) {
-    for (int i = 0; i < fromBit.length; i++) {
-      CHECK.due(when + ": total(" + (2 + i) + ")", bus.total(2 + i), fromBit[i]);
-    }
-  }
-
-  private static void refuses() {
+  @Says("How many: 0 bit times,")
+  static void bitTimes() {
     StrongBus bus = new StrongBus(2);
-    for (int which : new int[] {-1, 8, Integer.MAX_VALUE, Integer.MIN_VALUE}) {
-      CHECK.badArgument("total(" + which + ")", () -> bus.total(which));
-    }
-    CHECK.due("total(7)", bus.total(7), 0);
+    CHECK.due("total(0) of a new one", bus.total(0), 0);
+    bus.pass(1);
+    CHECK.due("total(0)", bus.total(0), 1);
+    bus.pass(200);
+    CHECK.due("total(0)", bus.total(0), 201);
   }
 
-  private static void bitTimesAndFrames() {
+  @Says("1 frames sent,")
+  static void framesSent() {
     StrongBus bus = new StrongBus(2);
     bus.request(0, 0, 0, 0);
     bus.request(1, 1, 0, 0);
-    bus.pass(49);
-    CHECK.due("total(0)", bus.total(0), 49);
-    CHECK.due("total(1)", bus.total(1), 0);
+    bus.pass(Line.TAIL_LAST - 1);
+    CHECK.due("before the last bit of the tail: total(1)", bus.total(1), 0);
     bus.pass(1);
-    CHECK.due("total(1)", bus.total(1), 1);
+    CHECK.due("behind it: total(1)", bus.total(1), 1);
     bus.pass(200);
-    CHECK.due("total(0)", bus.total(0), 250);
     CHECK.due("total(1)", bus.total(1), 2);
     totals(bus, "no error", 0, 0, 0, 0, 0, 0);
   }
 
-  private static void bitErrors() {
+  @Says("1 frames sent,")
+  static void equalFramesAreSentByEach() {
+    StrongBus bus = new StrongBus(4);
+    for (int node = 0; node < 3; node++) {
+      bus.request(node, 0, 0, 0);
+    }
+    bus.pass(Line.TAIL_LAST);
+    CHECK.due("total(1)", bus.total(1), 3);
+  }
+
+  @Says("errors 2 BIT,")
+  static void bitErrors() {
     StrongBus bus = new StrongBus(4);
     bus.request(0, 0, 0, 0);
     bus.disturb(0, 1);
@@ -55,7 +53,8 @@ public final class TotalTest {
     totals(bus, "no more", 1, 3, 0, 0, 0, 0);
   }
 
-  private static void padErrors() {
+  @Says("3 PAD,")
+  static void padErrors() {
     StrongBus bus = new StrongBus(2);
     bus.request(0, 0, 0, 0);
     bus.disturb(1, 6);
@@ -68,27 +67,40 @@ public final class TotalTest {
     totals(bus, "its next pad is one of the flag's", 1, 1, 0, 0, 0, 0);
   }
 
-  private static void shapeErrors() {
+  @Says("4 SHAPE,")
+  static void shapeErrors() {
     StrongBus bus = new StrongBus(2);
-    bus.request(0, 1365, 0, 0);
+    bus.request(0, Line.LONG_ID, 0, 0);
     bus.disturb(1, 13);
     bus.pass(13);
     totals(bus, "SHAPE", 0, 0, 1, 0, 0, 0);
     StrongBus three = new StrongBus(3);
     three.request(0, 0, 0, 0);
-    three.disturb(1, 44);
-    three.pass(44);
+    three.disturb(1, Line.TAIL);
+    three.pass(Line.TAIL);
     totals(three, "SHAPE in the tail", 0, 0, 1, 0, 0, 0);
     three.pass(1);
     totals(three, "its flag", 1, 0, 2, 0, 0, 0);
   }
 
-  private static void checkAndAnswerErrors() {
-    int end = Line.core(1365, 2, 43690).length + 1;
-    StrongBus bus = new StrongBus(2);
-    bus.request(0, 1365, 2, 43690);
+  @Says("5 CHECK,")
+  static void checkErrors() {
+    StrongBus bus = new StrongBus(4);
+    bus.request(0, Line.LONG_ID, 2, Line.LONG_DATA);
     bus.disturb(1, 26);
-    bus.pass(end);
+    bus.disturb(2, 27);
+    bus.pass(Line.LONG_END + 1);
+    totals(bus, "the answer", 0, 0, 0, 0, 0, 0);
+    bus.pass(1);
+    totals(bus, "the gap", 0, 0, 0, 2, 0, 0);
+  }
+
+  @Says("6 ANSWER")
+  static void answerErrors() {
+    StrongBus bus = new StrongBus(2);
+    bus.request(0, Line.LONG_ID, 2, Line.LONG_DATA);
+    bus.disturb(1, 26);
+    bus.pass(Line.LONG_END);
     totals(bus, "the end", 0, 0, 0, 0, 0, 0);
     bus.pass(1);
     totals(bus, "the answer", 0, 0, 0, 0, 1, 0);
@@ -96,11 +108,33 @@ public final class TotalTest {
     totals(bus, "the gap", 0, 0, 0, 1, 1, 0);
   }
 
-  private static void overloads() {
+  @Says("(as far as they are counted)")
+  static void anAnswerThatIsNotCounted() {
+    StrongBus at120 = Line.withErrors(15);
+    at120.disturb(0, Line.ANSWER);
+    at120.pass(Line.ANSWER);
+    CHECK.due("120 is counted: T", at120.count(0, 0), 128);
+    CHECK.due("total(6)", at120.total(6), 1);
+
+    StrongBus at128 = Line.withErrors(16);
+    at128.disturb(0, Line.ANSWER);
+    at128.pass(Line.ANSWER);
+    CHECK.due("128 is not counted: T", at128.count(0, 0), 128);
+    CHECK.due("total(6)", at128.total(6), 0);
+
+    StrongBus byR = Line.withHighR();
+    byR.request(1, 0, 0, 0);
+    byR.disturb(1, Line.ANSWER);
+    byR.pass(Line.ANSWER);
+    CHECK.due("nor with a high R: total(6)", byR.total(6), 0);
+  }
+
+  @Says("7 overloads.")
+  static void overloads() {
     StrongBus bus = new StrongBus(4);
     bus.request(0, 0, 0, 0);
-    bus.disturb(2, 51);
-    bus.pass(51);
+    bus.disturb(2, Line.TAIL_LAST + 1);
+    bus.pass(Line.TAIL_LAST + 1);
     totals(bus, "one", 0, 0, 0, 0, 0, 1);
     bus.pass(1);
     totals(bus, "all", 0, 0, 0, 0, 0, 4);
@@ -108,11 +142,21 @@ public final class TotalTest {
     totals(bus, "no more", 0, 0, 0, 0, 0, 4);
   }
 
-  private static void uncountedAnswers() {
-    StrongBus bus = Line.withErrors(17);
-    totals(bus, "before", 17, 17, 0, 0, 0, 0);
-    bus.disturb(0, 42);
-    bus.pass(60);
-    totals(bus, "an ANSWER of a passive one", 17, 17, 0, 0, 0, 0);
+  @Says("IllegalArgumentException: any other number.")
+  static void anyOtherNumber() {
+    StrongBus bus = new StrongBus(2);
+    String before = Line.picture(bus, 2);
+    for (int which : new int[] {-1, 8, 9, Integer.MAX_VALUE, Integer.MIN_VALUE}) {
+      CHECK.badArgument("total(" + which + ")", () -> bus.total(which));
+    }
+    CHECK.due("total(0)", bus.total(0), 0);
+    CHECK.due("total(7)", bus.total(7), 0);
+    CHECK.due("a refused call changes nothing: the bus", Line.picture(bus, 2), before);
+  }
+
+  private static void totals(StrongBus bus, String when, int... fromBit) {
+    for (int i = 0; i < fromBit.length; i++) {
+      CHECK.due(when + ": total(" + (2 + i) + ")", bus.total(2 + i), fromBit[i]);
+    }
   }
 }
