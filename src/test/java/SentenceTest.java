@@ -6,7 +6,7 @@ import java.nio.file.Path;
 import java.util.Map;
 import java.util.TreeMap;
 
-/** Whether the tests quote the document as it stands, and leave out no word of its terms and promises. */
+/** Whether the tests quote the document as it stands, and leave out no word of what it asks for. */
 public final class SentenceTest {
   private static final Check CHECK = new Check(SentenceTest.class);
   private static final Path DOCUMENT = Path.of("..", "shared", "DOC.md");
@@ -24,7 +24,8 @@ public final class SentenceTest {
     document.split(Files.readString(DOCUMENT));
     document.quoteAll();
     for (String heading : document.sections.keySet()) {
-      if (heading.equals("Terms") || heading.startsWith("Promise ")) {
+      // Before the first heading stands the name alone.
+      if (!heading.startsWith("# ") && !heading.equals("Not promised")) {
         document.lookForGaps(heading);
       }
     }
@@ -46,7 +47,7 @@ public final class SentenceTest {
     try (DirectoryStream<Path> files = Files.newDirectoryStream(TESTS, "*Test.java")) {
       for (Path file : files) {
         Class<?> tests = Class.forName(file.getFileName().toString().replace(".java", ""));
-        if (tests != SentenceTest.class) {
+        if (tests.isAnnotationPresent(Section.class)) {
           quote(tests);
         }
       }
